@@ -416,6 +416,27 @@ public final class PromisesTest {
         due(14, "a wall on its line up to the bounce", on.sees(0, 0, 0, NONE, NONE), 0);
     }
 
+    /** Seat, source and wall at one height, the seat or the source farther off: a screen there is on one leg alone. */
+    private static void seesAlongOneLine() {
+        int[][] places = {{150, 300, 100, 200, 250}, {300, 150, 100, 200, 250}, {850, 700, 900, 750, 800},
+            {700, 850, 900, 750, 800}};
+        for (int[] p : places) {
+            HallHeard x = open(p[0], 50, p[1], 50);
+            x.wall(p[2], 0, p[2], 100, 0);
+            due(14, "free", x.sees(0, 0, 0, NONE, NONE), 1);
+            x.wall(p[3], 50, p[4], 50, 0);
+            due(14, "a screen on one leg", x.sees(0, 0, 0, NONE, NONE), 0);
+            x.back();
+            x.wall(p[3], 49, p[4], 49, 0);
+            due(14, "a screen beside it", x.sees(0, 0, 0, NONE, NONE), 1);
+            x.back();
+            x.wall(p[2] < 500 ? 310 : 600, 50, p[2] < 500 ? 400 : 690, 50, 0);
+            due(14, "a screen behind both", x.sees(0, 0, 0, NONE, NONE), 1);
+            x.wall(p[2] < 500 ? 300 : 600, 50, p[2] < 500 ? 400 : 700, 50, 0);
+            due(14, "a screen up to the farther one", x.sees(0, 0, 0, NONE, NONE), 0);
+        }
+    }
+
     /** One wall at y = 0: the direct path of 100 (TICK 2), the other one of 260 (TICK 5). */
     private static HallHeard twoPaths() {
         HallHeard x = open(300, 120, 400, 120);
@@ -461,6 +482,14 @@ public final class PromisesTest {
         x.wall(0, 600, 1000, 600, 0);
         due(15, "a late PATH after one without ENERGY", x.heard(0, 0, 2), 0);
         due(15, "is as late as it is", x.heard(0, 0, 3), 14);
+        HallHeard faint = new HallHeard();
+        faint.source(0, 0, 1);
+        faint.seat(800, 0);
+        due(15, "the least ENERGY", faint.heard(0, 0, 0), 1);
+        due(15, "CENTRE of the least ENERGY", faint.heard(0, 0, 3), 0);
+        faint.seat(1000, 0);
+        due(15, "no ENERGY at all", faint.heard(0, 1, 2), NONE);
+        due(15, "its TICK", faint.heard(0, 1, 4), 20);
     }
 
     private static void at() {
@@ -650,6 +679,7 @@ public final class PromisesTest {
         sees();
         seesExactly();
         seesInRoom();
+        seesAlongOneLine();
         heard();
         heardOfSilentWalls();
         at();
