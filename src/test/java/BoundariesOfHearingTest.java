@@ -451,6 +451,48 @@ public final class BoundariesOfHearingTest {
         Boundaries.leavesAll(9, "rule to what it is", FURNISHED, x -> x.rule(0, 3));
     }
 
+    private static final int[][] SOURCES = {{150, 100, 1000}, {20, 380, 17}, {590, 10, 400}, {299, 201, 999}};
+    private static final int[][] SEATS = {{451, 300}, {310, 160}, {150, 100}, {5, 5}, {595, 395}, {70, 210}, {333, 77},
+        {480, 20}};
+
+    private static HallHeard roomWithScreen() {
+        HallHeard x = new HallHeard();
+        x.stuff(10, 3);
+        x.wall(0, 0, 600, 0, 0);
+        x.wall(600, 0, 600, 400, 0);
+        x.wall(600, 400, 0, 400, 0);
+        x.wall(0, 400, 0, 0, 0);
+        x.wall(300, 150, 300, 220, 0);
+        return x;
+    }
+
+    private static long[] answersOf(HallHeard x, int source, int seat) {
+        return new long[] {x.paths(source, seat, 0), x.paths(source, seat, 1), x.paths(source, seat, NONE),
+            x.path(source, seat, 2, 4), x.path(source, seat, 1, 5), x.sees(source, seat, NONE, NONE, NONE),
+            x.sees(source, seat, 4, 2, NONE), x.heard(source, seat, 0), x.heard(source, seat, 3),
+            x.at(source, seat, 4), x.at(source, seat, 9), x.best(source, seat, 0b10101, 30, 0),
+            x.best(source, seat, 0b10101, 30, 1)};
+    }
+
+    /** "What has a number has it from 0 on, as it comes": each pair of many is as it is by itself. */
+    private static void numbersOfPoints() {
+        HallHeard all = roomWithScreen();
+        for (int[] p : SOURCES) all.source(p[0], p[1], p[2]);
+        for (int[] p : SEATS) all.seat(p[0], p[1]);
+        for (int source = 0; source < SOURCES.length; source++) {
+            for (int seat = 0; seat < SEATS.length; seat++) {
+                HallHeard one = roomWithScreen();
+                one.source(SOURCES[source][0], SOURCES[source][1], SOURCES[source][2]);
+                one.seat(SEATS[seat][0], SEATS[seat][1]);
+                long[] wants = answersOf(one, 0, 0);
+                long[] got = answersOf(all, source, seat);
+                for (int k = 0; k < got.length; k++) {
+                    due(12, "source " + source + ", seat " + seat + ", answer " + k, got[k], wants[k]);
+                }
+            }
+        }
+    }
+
     /** "at most 512 calls": the dearest ones, as many of them, in a full hall. */
     private static void dearestCalls() {
         HallHeard x = FILLED.make();
@@ -485,6 +527,7 @@ public final class BoundariesOfHearingTest {
         noneCounts();
         figures();
         bestChangesNothing();
+        numbersOfPoints();
         dearestCalls();
         Boundaries.end("boundaries of what is heard");
     }

@@ -58,6 +58,12 @@ public final class BoundariesOfPathsTest {
         free.and(20, 10, 0, 10).sees("its end on the leg, along", 0);
         free.and(19, 10, 0, 10).sees("its end 1 off, along", 1);
         free.and(21, 10, 60, 10).sees("its end 1 off, along, behind", 1);
+        Scene steep = Scene.of(100, 300, 101, 500);
+        steep.and(101, 500, 101, 600).sees("aslant by 1, its end at the leg's end", 0);
+        steep.and(101, 501, 101, 600).sees("aslant by 1, its end 1 behind the leg's end", 1);
+        steep.and(101, 400, 101, 499).sees("aslant by 1, beside the leg's end", 1);
+        steep.and(101, 400, 102, 400).sees("aslant by 1, missed by a half", 1);
+        steep.and(100, 400, 101, 400).sees("aslant by 1, met between", 0);
         Scene fine = Scene.of(0, 0, 1000, 999);
         fine.and(500, 500, 500, 600).sees("missed by a half", 1);
         fine.and(500, 499, 500, 600).sees("met by a half", 0);
@@ -93,6 +99,8 @@ public final class BoundariesOfPathsTest {
         Scene.of(100, 300, 500, 400, 0, 300, 1000, 300).sees("one on the wall", NONE, 0);
         Scene.of(100, 300, 500, 400, 200, 300, 300, 300).sees("one on its line", NONE, 0);
         Scene.of(100, 299, 500, 301, 0, 300, 1000, 300).sees("on both sides", NONE, 0);
+        Scene.of(100, 280, 500, 305, 0, 300, 1000, 300).sees("on both sides, one nearer", NONE, 0);
+        Scene.of(100, 299, 500, 302, 0, 300, 1000, 300).sees("on both sides, one nearer by 1", NONE, 0);
         Scene.of(100, 299, 500, 299, 0, 300, 1000, 300).sees("1 off on one side", 1, 0);
         Scene.of(100, 300, 100, 300, 0, 300, 1000, 300).sees("both at one point of it", NONE, 0);
     }
@@ -420,6 +428,21 @@ public final class BoundariesOfPathsTest {
         }
     }
 
+    /** A row that was asked for is not lengthened by the next call, nor is one that was searched. */
+    private static void callsByThemselves() {
+        HallHeard x = Scene.of(100, 150, 500, 150, 0, 100, 1000, 100, 0, 200, 1000, 200, 700, 0, 700, 99).hall();
+        int[][] rows = {{0, 1, 0}, {NONE, NONE, NONE}, {1, NONE, NONE}, {2, NONE, NONE}, {0, 1, NONE}, {1, 0, 1}};
+        int[] wants = {1, 1, 1, NONE, 1, 1};
+        for (int before = 0; before <= 3; before++) {
+            for (int k = 0; k < rows.length; k++) {
+                due(14, "one behind another", x.sees(0, 0, rows[k][0], rows[k][1], rows[k][2]), wants[k]);
+                x.paths(0, 0, before);
+                due(14, "behind a search", x.sees(0, 0, rows[k][0], rows[k][1], rows[k][2]), wants[k]);
+            }
+            due(12, "behind all of them", x.paths(0, 0, NONE), 7);
+        }
+    }
+
     public static void main(String[] args) {
         legOfNoLength();
         wallAcrossLeg();
@@ -448,6 +471,7 @@ public final class BoundariesOfPathsTest {
         energies();
         asksWhatIsSeen();
         seesBeyondMost();
+        callsByThemselves();
         Boundaries.end("boundaries of paths");
     }
 }

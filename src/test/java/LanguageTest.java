@@ -24,6 +24,8 @@ public final class LanguageTest {
         "\\bprotected\\b", "->", "::", "Exact\\b", "\\bwhile \\(true\\)", "\\bfor \\(;;\\)", "\\bSystem\\.(?!arraycopy)",
         "\\bequals\\b", "\\bhashCode\\b", "\\btoString\\b", "\\bdouble\\b", "\\bfloat\\b", "\\bstatic \\{"};
 
+    private static final int METHOD_LINES = 60;
+
     private static int wrong = 0;
 
     private static void check(boolean holds, String what) {
@@ -84,8 +86,21 @@ public final class LanguageTest {
         }
     }
 
+    /** A method's first and last line stand at the same depth, 4 in the class or 8 in one inside it. */
+    private static void lengths(String text) {
+        String[] lines = text.split("\n");
+        for (int from = 0; from < lines.length; from++) {
+            if (!lines[from].matches("( {4}| {8})[\\w].*\\) \\{")) continue;
+            String end = lines[from].replaceAll("^( +).*", "$1") + "}";
+            int to = from;
+            while (to < lines.length && !lines[to].equals(end)) to++;
+            check(to - from < METHOD_LINES, "a method of " + (to - from + 1) + " lines: " + lines[from].trim());
+        }
+    }
+
     private static void words() throws Exception {
         String text = Files.readString(Path.of("src/main/java/HallHeard.java"));
+        lengths(text);
         check(text.chars().allMatch(c -> c < 256), "characters 0 to 255");
         String code = Pattern.compile("/\\*.*?\\*/", Pattern.DOTALL).matcher(text).replaceAll("");
         code = code.replaceAll("//[^\n]*", "");
