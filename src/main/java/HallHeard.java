@@ -203,7 +203,7 @@ public final class HallHeard {
             case 0: return found.orderOf(i);
             case 4: return found.squares[i];
             case 5: return energyOf(i, powers[source], walls.stuffOf);
-            case 6: return found.ticks[i];
+            case 6: return found.tickOf(i);
             default: return found.wallOf(i, what - 1);
         }
     }
@@ -259,7 +259,7 @@ public final class HallHeard {
         find(source, seat, 0, most);
         long sum = 0;
         for (int i = 0; i < found.held; i++) {
-            if (found.ticks[i] == tick) {
+            if (found.tickOf(i) == tick) {
                 sum += energyOf(i, powers[source], walls.stuffOf);
             }
         }
@@ -417,7 +417,7 @@ public final class HallHeard {
     }
 
     private boolean isEarly(int i) {
-        return found.ticks[i] < found.least + border;
+        return found.tickOf(i) < found.least + border;
     }
 
     private void sumUp(int power) {
@@ -429,7 +429,7 @@ public final class HallHeard {
             } else {
                 sums.later += energy;
             }
-            sums.delayed += energy * (found.ticks[i] - found.least);
+            sums.delayed += energy * (found.tickOf(i) - found.least);
         }
     }
 
@@ -703,12 +703,15 @@ public final class HallHeard {
     private static final class Found {
         private static final int BITS_OF_WALL = 5;
         private static final int MASK_OF_WALL = 31;
+        private static final int BITS_OF_ROW = BITS_OF_WALL * ORDER_AT_MOST;
         private static final int GREATEST_BIT_OF_ROOT = 1 << 15;
 
-        /** A row's walls in five bits each, one more than their numbers, so that 0 is NONE. */
-        final int[] rows = new int[ROWS_AT_MOST];
+        /**
+         * A row's walls in five bits each, one more than their numbers, so that 0 is NONE; above them the tick. One
+         * array for both keeps the object small: a run may make as many objects as it has calls.
+         */
+        final int[] rowsAndTicks = new int[ROWS_AT_MOST];
         final long[] squares = new long[ROWS_AT_MOST];
-        final int[] ticks = new int[ROWS_AT_MOST];
         int held = 0;
         int least = NONE;
 
@@ -727,9 +730,8 @@ public final class HallHeard {
             }
             long square = route.lengthSquared();
             int tick = wholeRoot(square) / LENGTH_OF_TICK;
-            rows[held] = packed;
+            rowsAndTicks[held] = packed | tick << BITS_OF_ROW;
             squares[held] = square;
-            ticks[held] = tick;
             held++;
             if (least == NONE || tick < least) {
                 least = tick;
@@ -737,7 +739,11 @@ public final class HallHeard {
         }
 
         int wallOf(int i, int place) {
-            return ((rows[i] >> (BITS_OF_WALL * place)) & MASK_OF_WALL) - 1;
+            return ((rowsAndTicks[i] >> (BITS_OF_WALL * place)) & MASK_OF_WALL) - 1;
+        }
+
+        int tickOf(int i) {
+            return rowsAndTicks[i] >> BITS_OF_ROW;
         }
 
         int orderOf(int i) {
